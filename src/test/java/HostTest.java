@@ -189,6 +189,16 @@ public final class HostTest {
         acted(x, 1, 10, 22, 11, 10);
         acted(x, 2, 11, 3 + 5, 61, 12, 10);
         acted(x, 3, 10, (22 ^ 4) * 2, 60, 13, 11, 10);
+        // n = 2 and a = 3: by 1
+        x.person(2, 3, 1);
+        x.shelf(0, 0, 2);
+        acted(x, 3, 10, (72 ^ 3) + 2, 31, 13, 11, 30, 10, 12);
+        x.mind(2, 3, 3);
+        acted(x, 2, 11, 12, 50, 12);
+        acted(x, 2, 12, 15, 50, 12);
+        x.mind(2, 5, 3);
+        acted(x, 2, 11, 11 + 5, 61, 12, 10);
+        x.shelf(0, 0, 1);
         // n = 1 and a = 0: by -1, and the least number wraps
         x.mind(1, 0, 0);
         acted(x, 2, Integer.MIN_VALUE, Integer.MIN_VALUE, 12);

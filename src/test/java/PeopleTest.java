@@ -68,6 +68,11 @@ public final class PeopleTest {
         CHECK.due("it stays gone", 1, x.many(1));
         x.days(20);
         CHECK.due("a DATE that is over may be told", 2, x.date(5, 5));
+        CHECK.due("strike(0)", 1, x.strike(0));
+        CHECK.due("dateOf(0, 0)", 5, x.dateOf(0, 0));
+        CHECK.due("set(0, 5)", 50, x.set(0, 5));
+        CHECK.due("the only DATE goes", 0, x.many(1));
+        CHECK.due("strike(0)", LastDays.BAD, x.strike(0));
     }
 
     private static void people() {
@@ -107,6 +112,8 @@ public final class PeopleTest {
         CHECK.due("ill(6, 0)", LastDays.BAD, x.ill(6, 0));
         CHECK.due("ill(3, 0)", 0, x.ill(3, 0));
         CHECK.due("personOf(3, 4)", 0, x.personOf(3, 4));
+        CHECK.due("DAYS go for six", 60, x.days(60));
+        CHECK.due("all but the busy one with A 0 have HANDED in", 5, x.many(2));
     }
 
     private static void goal(LastDays x, int person, int day, int left, int toGo, int hours) {
@@ -261,6 +268,13 @@ public final class PeopleTest {
         CHECK.due("6 DAYS early", 118, x.personOf(1, 7));
         x.set(3, 4);
         CHECK.due("120 at most", 120, x.personOf(1, 7));
+        x.set(0, 5);
+        CHECK.due("1 DAY early", 104, x.personOf(1, 7));
+        x.set(0, 4);
+        CHECK.due("on DUE: neither", 100, x.personOf(1, 7));
+        x.set(2, 7);
+        x.set(0, 3);
+        CHECK.due("1 DAY late", 93, x.personOf(1, 7));
         x = CHECK.told("worker 0 work 9;date 2 part 99;due 12;");
         x.set(3, 10);
         x.set(4, 30);

@@ -82,7 +82,7 @@ public final class RowsTest {
         x.alterRow(1, 0, 59);
         x.alterRow(1, 2, 60);
         x.alterRow(2, 0, 60);
-        x.alterRow(2, 1, 0);
+        x.alterRow(2, 2, 61);
         CHECK.due("rows behind DAY 59 are wrong", 3, x.judge(0));
         x.days(2);
         CHECK.due("all are behind it", 1, x.judge(0));
@@ -122,7 +122,16 @@ public final class RowsTest {
         CHECK.due("held to 0", 0, x.personOf(1, 1));
         CHECK.due("as it is", 7, x.personOf(2, 1));
         CHECK.due("KIND stays", 1, x.personOf(1, 0));
+        CHECK.due("minds(0, 0, 2, 1)", 1, x.minds(0, 0, 2, 1));
+        CHECK.due("personOf(2, 1)", 0, x.personOf(2, 1));
         CHECK.due("minds(0, 3, 1, 1)", 1, x.minds(0, 3, 1, 1));
         CHECK.due("personOf(1, 1)", 7, x.personOf(1, 1));
+        for (int i = 3; i < 6; i++) {
+            x.person(0, 1, 1);
+        }
+        x.sheet(2, 0, 6);
+        x.put(2, 5, 8);
+        CHECK.due("minds(2, 0, 0, 6)", 6, x.minds(2, 0, 0, 6));
+        CHECK.due("personOf(5, 1)", 8, x.personOf(5, 1));
     }
 }

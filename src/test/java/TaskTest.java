@@ -8,6 +8,7 @@ public final class TaskTest {
         aTextIsAll();
         whatStaysBehindATask();
         faults();
+        theEndOfTheTape();
         CHECK.end();
     }
 
@@ -110,6 +111,50 @@ public final class TaskTest {
         CHECK.due("MISSED", 5, x.lawOf(4));
         CHECK.due("z stays", 77, x.seed(1));
         CHECK.due("SHEETS stay", 1, x.put(0, 4, 1));
+        // One who comes to a number that was another's begins anew, whether by a text or by person().
+        x = CHECK.told("worker 0 work 50 ill 1;date 0 part 99;");
+        x.days(4);
+        x.seed(9);
+        CHECK.feed(x, "late 1 work 20;");
+        CHECK.due("task()", 1, x.task());
+        CHECK.due("z stays", 9, x.seed(9));
+        int[] anew = {1, 1, 20, 0, 0, -9, 0, -9};
+        for (int go = 0; go < 2; go++) {
+            for (int what = 0; what < 8; what++) {
+                CHECK.due("personOf(0, " + what + ")", anew[what], x.personOf(0, what));
+            }
+            x.ill(0, 7);
+            x.date(0, 99);
+            x.days(9);
+            x.task();
+            x.person(1, 1, 20);
+        }
+    }
+
+    /** What stood on THE TAPE ahead is no part of the TEXT, and all 200 bytes are. */
+    private static void theEndOfTheTape() {
+        LastDays x = new LastDays();
+        for (String earlier : new String[] {"due 5 7;", "due 57;", "due 5;", "due 5    ", "due work"}) {
+            for (String text : new String[] {"due", "due ", "due 5"}) {
+                CHECK.feed(x, earlier);
+                x.task();
+                CHECK.feed(x, text);
+                CHECK.due("\"" + text + "\" behind \"" + earlier + "\"", -100 - text.length(), x.task());
+            }
+        }
+        String most = "due 10;".repeat(28);
+        String[] ends = {"    ", "due ", "dues", "5   ", ";   "};
+        int[] faults = {0, -300, -296, -296, -296};
+        for (int i = 0; i < ends.length; i++) {
+            CHECK.feed(x, most + ends[i]);
+            CHECK.due("many(4)", 200, x.many(4));
+            CHECK.due("200 bytes that end with \"" + ends[i] + "\"", faults[i], x.task());
+        }
+        CHECK.feed(x, " ".repeat(195) + "due 5");
+        CHECK.due("a NUMBER at the very end", -300, x.task());
+        CHECK.feed(x, " ".repeat(194) + "due 5;");
+        CHECK.due("a sign at the very end", 0, x.task());
+        CHECK.due("lawOf(0)", 5, x.lawOf(0));
     }
 
     private static void fault(String text, int place) {
@@ -134,6 +179,14 @@ public final class TaskTest {
         fault("worker -1 work 1;", 7);
         fault("worker 1 work 000;", 14);
         fault("12;", 0);
+        fault("duez 5;", 0);
+        fault("adue 5;", 0);
+        fault("due 9:;", 5);
+        fault("worker 1 work 0;", 14);
+        fault("worker 1 work 1 ill 30;", 20);
+        fault("worker 1 work 1;late 1 work 1;busy 1 work 1;worker 1 work 1;late 1 work 1;busy 1 work 1;due 5;worker", 94);
+        fault("date 5 part 0;", 12);
+        fault("date 5 part 5;date 5 part 5;", 19);
         fault("due", 3);
         fault("due 5", 5);
         fault("due 5  ", 7);

@@ -4,6 +4,7 @@ public final class WhatWillBeTest {
 
     public static void main(String[] args) {
         trials();
+        trialsAreMadeAnew();
         nothingChanges();
         bestDates();
         enough();
@@ -40,6 +41,31 @@ public final class WhatWillBeTest {
         CHECK.due("when(-1)", LastDays.BAD, x.when(-1));
         CHECK.due("markOf(5)", LastDays.BAD, x.markOf(5));
         CHECK.due("markOf(-1)", LastDays.BAD, x.markOf(-1));
+    }
+
+    /** Each call on an object of its own, so that no other call's TRIAL helps it. */
+    private static void trialsAreMadeAnew() {
+        String six = "worker 0 work 31;worker 1 work 4;worker 1 work 4;worker 1 work 4;worker 1 work 4;worker 0 work 61;";
+        CHECK.due("when(0)", 30, CHECK.told(six).when(0));
+        CHECK.due("markOf(0)", 95, CHECK.told(six).markOf(0));
+        CHECK.due("heap(1)", 4, CHECK.told(six).heap(1));
+        CHECK.due("late()", 33, CHECK.told(six).late());
+        CHECK.due("marks()", 495, CHECK.told(six).marks());
+        CHECK.due("enough(0, 95)", 6, CHECK.told(six).enough(0, 95));
+        CHECK.due("sooner()", 1, CHECK.told(six).sooner());
+        LastDays x = CHECK.told(six);
+        x.marks();
+        x.mind(0, 0, 1);
+        CHECK.due("when(0)", 15, x.when(0));
+        x.mind(0, 0, 0);
+        CHECK.due("markOf(0)", 95, x.markOf(0));
+        x.mind(0, 0, 1);
+        CHECK.due("marks()", 500, x.marks());
+        x.mind(0, 0, 0);
+        CHECK.due("enough(0, 95)", 6, x.enough(0, 95));
+        x.mind(0, 0, 1);
+        CHECK.due("late()", 32, x.late());
+        CHECK.due("heap(15)", 1, x.heap(15));
     }
 
     private static void nothingChanges() {
@@ -88,6 +114,8 @@ public final class WhatWillBeTest {
         CHECK.due("no DAY is left, and NONE is named ahead of FULL", LastDays.NONE, x.bestDate());
         x.strike(0);
         CHECK.due("no DAY is left", LastDays.NONE, x.bestDate());
+        // 7 hours a day, half of 99 is 49.
+        CHECK.due("half of the work", 6, CHECK.told("worker 6 work 99;").bestDate());
         x = new LastDays();
         x.set(0, 1);
         CHECK.due("nobody: the first", 0, x.bestDate());
@@ -108,6 +136,9 @@ public final class WhatWillBeTest {
         CHECK.due("below 10", LastDays.NONE, x.enough(0, 10));
         CHECK.due("no MARK", LastDays.NONE, x.enough(1, 120));
         CHECK.due("not late", LastDays.NONE, x.enough(2, 100));
+        CHECK.due("never below 1", LastDays.NONE, x.enough(0, 1));
+        x.set(0, 8);
+        CHECK.due("4 DAYS: 0 by PENALTY 25, and now too", 25, x.enough(0, 1));
         CHECK.due("enough(0, 0)", LastDays.BAD, x.enough(0, 0));
         CHECK.due("enough(0, 121)", LastDays.BAD, x.enough(0, 121));
         CHECK.due("enough(3, 5)", LastDays.BAD, x.enough(3, 5));
@@ -119,6 +150,9 @@ public final class WhatWillBeTest {
         CHECK.due("4 a day are enough, 10 DAYS", 3, x.patience(0));
         x.set(3, 1);
         CHECK.due("8 a day are most", 7, x.patience(0));
+        x.set(1, 12);
+        CHECK.due("10 a day", 9, x.patience(0));
+        CHECK.due("MARK 0 is one, and A 0 has none", 1, CHECK.told("worker 5 work 99;due 1;penalty 30;").patience(0));
         x.ill(0, 1073741823);
         x.set(1, 1);
         CHECK.due("with none there is a MARK", LastDays.NONE, x.patience(0));
@@ -146,9 +180,14 @@ public final class WhatWillBeTest {
         x.ill(0, 0);
         x.days(28);
         CHECK.due("DAY 30", LastDays.NONE, x.worst(0));
+        x = CHECK.told("worker 9 work 9;");
+        x.set(3, 10);
+        CHECK.due("MARK 120 on all of them", 0, x.worst(0));
         // A waiter works on DAY 9 alone, all of it: that is the one.
         x = CHECK.told("waiter 0 work 8;due 9;");
         CHECK.due("worst of a waiter", 9, x.worst(0));
+        x.ill(0, 1 << 9);
+        CHECK.due("ILL on that one already, the next", 10, x.worst(0));
         // 60 hours, 1 a day: with any DAY ILL there is no MARK, which is less than MARK 0.
         x = CHECK.told("worker 0 work 60;penalty 30;");
         CHECK.due("markOf(0)", 0, x.markOf(0));
@@ -165,6 +204,10 @@ public final class WhatWillBeTest {
         x.set(0, 50);
         x.strike(0);
         CHECK.due("nobody is late", 44, x.sooner());
+        x.mind(0, 0, 9);
+        CHECK.feed(x, "worker 0 work 51;due 50;");
+        x.task();
+        CHECK.due("50 is the last", 50, x.sooner());
         CHECK.due("nobody at all", 1, new LastDays().sooner());
         // KINDS work by DUE: a waiter of 8 hours works on DUE itself, as soon as it may be.
         x = CHECK.told("waiter 0 work 8;");
