@@ -18,6 +18,7 @@ public final class RandomRunsTest {
     private final LastDays x = new LastDays();
     private final Oracle oracle = new Oracle();
     private final StringBuilder story = new StringBuilder();
+    private int calls;
 
     private RandomRunsTest(long seed) {
         random = new Random(seed);
@@ -39,9 +40,9 @@ public final class RandomRunsTest {
         System.out.println(RUNS + " runs of " + CALLS + " calls are as the oracle's");
     }
 
-    private boolean sameAnswers(List<Method> calls) throws Exception {
-        for (int i = 0; i < CALLS; i++) {
-            Method call = calls.get(random.nextInt(calls.size()));
+    private boolean sameAnswers(List<Method> face) throws Exception {
+        while (calls < CALLS) {
+            Method call = face.get(random.nextInt(face.size()));
             if (call.getName().equals("feed") && random.nextInt(2) == 0) {
                 if (!feedText()) {
                     return false;
@@ -147,7 +148,12 @@ public final class RandomRunsTest {
         return random.nextInt(most + (random.nextInt(30) == 0 ? 2 : 1));
     }
 
+    /** Behind the last of CALLS the document leaves all answers free. */
     private boolean same(Method call, Object[] arguments) throws Exception {
+        if (calls == CALLS) {
+            return true;
+        }
+        calls++;
         Method twin = Oracle.class.getDeclaredMethod(call.getName(), call.getParameterTypes());
         int want = (Integer) twin.invoke(oracle, arguments);
         int got = (Integer) call.invoke(x, arguments);
